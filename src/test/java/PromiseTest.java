@@ -1,0 +1,1 @@
+public final class PromiseTest { public static void main(String[] a) { System.out.println("later"); } }
