@@ -450,8 +450,9 @@ public final class SaltShares {
         int breads;
         int day;
         int servings;
-        final boolean[] isOpen = new boolean[BREADS];
-        final boolean[] isSticky = new boolean[BREADS];
+        /** A bit for each bread. */
+        private int openOnes;
+        private int stickyOnes;
         final int[] groupOf = new int[BREADS];
         final int[] salt = new int[BREADS];
         final int[] share = new int[BREADS];
@@ -459,7 +460,7 @@ public final class SaltShares {
         final int[] groupSalt = new int[GROUPS];
         /** By group * 100 + bucket. */
         final int[] ownerOf = new int[GROUPS * BUCKETS];
-        /** These three: by person, a bit for each bread. */
+        /** These three by person, and in each a bit for each bread. */
         final int[] heldIn = new int[PERSONS];
         final int[] heldOut = new int[PERSONS];
         final int[] ate = new int[PERSONS];
@@ -478,8 +479,8 @@ public final class SaltShares {
             breads = other.breads;
             day = other.day;
             servings = other.servings;
-            System.arraycopy(other.isOpen, 0, isOpen, 0, BREADS);
-            System.arraycopy(other.isSticky, 0, isSticky, 0, BREADS);
+            openOnes = other.openOnes;
+            stickyOnes = other.stickyOnes;
             System.arraycopy(other.groupOf, 0, groupOf, 0, BREADS);
             System.arraycopy(other.salt, 0, salt, 0, BREADS);
             System.arraycopy(other.share, 0, share, 0, BREADS);
@@ -497,7 +498,7 @@ public final class SaltShares {
         }
 
         boolean isOpenBread(int bread) {
-            return hasBread(bread) && isOpen[bread];
+            return hasBread(bread) && (openOnes >> bread & 1) != 0;
         }
 
         boolean isInGroup(int bread) {
@@ -534,8 +535,9 @@ public final class SaltShares {
             if (bread >= BREADS) {
                 return NONE;
             }
-            isOpen[bread] = true;
-            isSticky[bread] = sticky;
+            int bit = 1 << bread;
+            openOnes |= bit;
+            stickyOnes = sticky ? stickyOnes | bit : stickyOnes & ~bit;
             groupOf[bread] = group;
             salt[bread] = itsSalt;
             share[bread] = 0;
@@ -546,7 +548,7 @@ public final class SaltShares {
 
         void closeBread(int bread) {
             lowerTo(bread, 0);
-            isOpen[bread] = false;
+            openOnes &= ~(1 << bread);
         }
 
         boolean canRaise(int bread, int to) {
@@ -678,7 +680,7 @@ public final class SaltShares {
             if ((heldOut[person] & bit) != 0) {
                 return false;
             }
-            return (heldIn[person] & bit) != 0 || isSticky[bread] && (ate[person] & bit) != 0;
+            return (heldIn[person] & bit) != 0 || (stickyOnes & ate[person] & bit) != 0;
         }
 
         boolean isEating(int person, int bread) {
@@ -687,7 +689,7 @@ public final class SaltShares {
 
         int reasonBy(int person, int bread, int itsSalt) {
             int bit = 1 << bread;
-            if (!isOpen[bread] || (heldOut[person] & bit) != 0) {
+            if ((openOnes & ~heldOut[person] & bit) == 0) {
                 return NOT_EATEN;
             }
             if ((heldIn[person] & bit) != 0) {
@@ -696,7 +698,7 @@ public final class SaltShares {
             if (owns(bread, bucketBy(person, itsSalt))) {
                 return BY_BUCKET;
             }
-            return isSticky[bread] && (ate[person] & bit) != 0 ? BY_STICKING : NOT_EATEN;
+            return (stickyOnes & ate[person] & bit) != 0 ? BY_STICKING : NOT_EATEN;
         }
 
         int breadsEatenBy(int person) {
@@ -749,7 +751,7 @@ public final class SaltShares {
         int breadProperty(int bread, int what) {
             switch (what) {
                 case 0:
-                    return isOpen[bread] ? 1 : 0;
+                    return openOnes >> bread & 1;
                 case 1:
                     return groupOf[bread];
                 case 2:
@@ -757,7 +759,7 @@ public final class SaltShares {
                 case 3:
                     return share[bread];
                 case 4:
-                    return isSticky[bread] ? 1 : 0;
+                    return stickyOnes >> bread & 1;
                 case 5:
                     return eaters(bread);
                 case 6:
@@ -821,7 +823,7 @@ public final class SaltShares {
                 case 0:
                     return breads;
                 case 1:
-                    return openBreads();
+                    return Integer.bitCount(openOnes);
                 case 2:
                     return day;
                 case 3:
@@ -835,16 +837,6 @@ public final class SaltShares {
                 default:
                     return holds();
             }
-        }
-
-        private int openBreads() {
-            int many = 0;
-            for (int bread = 0; bread < BREADS; bread++) {
-                if (isOpen[bread]) {
-                    many++;
-                }
-            }
-            return many;
         }
 
         private int personsWhoEat() {
