@@ -30,6 +30,41 @@ public final class PromiseTest {
         due("digest after " + what, x.digest(), before);
     }
 
+    /** The call saves one state, and undo brings everything back. */
+    private static void undoable(SaltShares x, int ofPromise, Call call) {
+        promise = ofPromise;
+        long before = x.digest();
+        int saved = x.count(8);
+        call.get();
+        due("saved states after it", x.count(8), saved + 1);
+        due("undo", x.undo(), saved);
+        due("digest after undo", x.digest(), before);
+    }
+
+    private static void undoableOnes() {
+        SaltShares x = town();
+        undoable(x, 2, () -> x.open(2, 5, true));
+        undoable(x, 3, () -> x.end(0));
+        undoable(x, 4, () -> x.raise(0, 77));
+        undoable(x, 4, () -> x.raise(3, 0));
+        undoable(x, 6, () -> x.resalt(3, 5));
+        undoable(x, 6, () -> x.resalt(3, 42));
+        undoable(x, 7, () -> x.shake(1, 5));
+        undoable(x, 7, () -> x.shake(1, 22));
+        undoable(x, 8, () -> x.hold(149, 3, true));
+        undoable(x, 8, () -> x.hold(0, 3, false));
+        undoable(x, 14, () -> ran(x, "x3"));
+        undoable(x, 14, () -> ran(x, "x4"));
+        SaltShares raised = town();
+        raised.raise(2, 100);
+        undoable(raised, 5, () -> raised.lower(2, 9));
+        undoable(raised, 5, () -> raised.lower(2, 100));
+        undoable(raised, 10, () -> raised.pass(50));
+        SaltShares held = town();
+        held.hold(149, 3, true);
+        undoable(held, 9, () -> held.letGo(149, 3));
+    }
+
     private static final Class<?> INDEX = IndexOutOfBoundsException.class;
     private static final Class<?> ARGUMENT = IllegalArgumentException.class;
     private static final Class<?> STATE = IllegalStateException.class;
@@ -669,7 +704,7 @@ public final class PromiseTest {
         SaltShares x = town();
         due("all as good", x.bestSalt(3, 500), 500);
         x.raise(3, 40);
-        for (int from : new int[] {0, 1, 100, 5000, 9979, 9980, 9981, 9999}) {
+        for (int from = 0; from <= 9999; from += from < 60 || from > 9950 ? 1 : 99) {
             int best = from;
             for (int salt = from; salt <= from + 19 && salt <= 9999; salt++) {
                 best = personsWithin(salt, 0, 39) > personsWithin(best, 0, 39) ? salt : best;
@@ -818,6 +853,7 @@ public final class PromiseTest {
         nextEater();
         part();
         digest();
+        undoableOnes();
         System.out.println(wrong == 0 ? "all promises are kept" : wrong + " answers are not as due");
         if (wrong != 0) {
             System.exit(1);
