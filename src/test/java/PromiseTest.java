@@ -379,8 +379,28 @@ public final class PromiseTest {
         due("length of " + text, x.clearBuffer(), text.length());
     }
 
+    /** Of all characters, just the wanted ones may follow. */
+    private static void follow(String text, String wanted) {
+        for (char c = 33; c <= 126; c++) {
+            error(text + c, wanted.indexOf(c) >= 0 ? text.length() + 1 : text.length());
+        }
+    }
+
+    private static void followers() {
+        String digits = "0123456789";
+        String[][] rows = {{"", "+-iodx"}, {"d1;", "+-iodx"}, {"+", "01234567"}, {"x", "01234567"}, {"o1@", "01234567"},
+            {"+0", "="}, {"-7", "="}, {"x7", ";"}, {"i1@0", ";"}, {"-1=", digits}, {"+0=0", ";"}, {"+0=1", digits + ";"},
+            {"+0=9", digits + ";"}, {"-0=10", "0;"}, {"+0=11", ";"}, {"+0=99", ";"}, {"+0=100", ";"}, {"i", digits},
+            {"i0", "@"}, {"i1", digits + "@"}, {"i9", digits + "@"}, {"i14", digits + "@"}, {"o15", "@"}, {"i149", "@"},
+            {"d", "123456789"}, {"d1", digits + ";"}, {"d4", digits + ";"}, {"d5", "0;"}, {"d6", ";"}, {"d50", ";"}};
+        for (String[] row : rows) {
+            follow(row[0], row[1]);
+        }
+    }
+
     private static void firstError() {
         promise = 13;
+        followers();
         String[] fine = {"", "+", "-7", "+0=", "+0=0", "-7=99", "+1=100", "+1=100;", "i0@0", "o149@7", "i14", "x0;x7",
             "d1", "d50;d9;", "i100@1;o99@2;+3=40;-4=9;x5;d49"};
         for (String text : fine) {
