@@ -1,38 +1,8 @@
 /** Runs for each promise of the document: ordinary inputs, the edges that it names, wrong inputs. */
-public final class PromiseTest {
-    private static int wrong = 0;
-    private static int promise = 0;
-
-    private interface Call {
-        long get();
-    }
-
-    private static void due(String what, long got, long want) {
-        if (got != want) {
-            wrong++;
-            System.out.println("promise " + promise + ": " + what + " answered " + got + ", due is " + want);
-        }
-    }
-
-    /** The call throws just that exception, and changes nothing. */
-    private static void fails(SaltShares x, String what, Class<?> due, Call call) {
-        long before = x.digest();
-        Class<?> thrown = null;
-        try {
-            call.get();
-        } catch (RuntimeException e) {
-            thrown = e.getClass();
-        }
-        if (thrown != due) {
-            wrong++;
-            System.out.println("promise " + promise + ": " + what + " threw " + thrown + ", due is " + due);
-        }
-        due("digest after " + what, x.digest(), before);
-    }
-
+public final class PromiseTest extends Checks {
     /** The call saves one state, and undo brings everything back. */
     private static void undoable(SaltShares x, int ofPromise, Call call) {
-        promise = ofPromise;
+        about("promise " + ofPromise);
         long before = x.digest();
         int saved = x.count(8);
         call.get();
@@ -65,48 +35,8 @@ public final class PromiseTest {
         undoable(held, 9, () -> held.letGo(149, 3));
     }
 
-    private static final Class<?> INDEX = IndexOutOfBoundsException.class;
-    private static final Class<?> ARGUMENT = IllegalArgumentException.class;
-    private static final Class<?> STATE = IllegalStateException.class;
-    private static final int[] FAR = {Integer.MIN_VALUE, -2, -1, 150, Integer.MAX_VALUE};
-
-    /** The bucket, worked out with longs. */
-    private static int bucketOf(long person, long salt) {
-        long mask = (1L << 32) - 1;
-        long x = person * -1640531535L + salt * 40503L & mask;
-        x = (x ^ x >> 15) * -2048144777L & mask;
-        x = (x ^ x >> 13) * -1028477379L & mask;
-        x = x ^ x >> 16;
-        return (int) ((x & mask >> 1) % 100);
-    }
-
-    private static int personsWithin(int salt, int least, int most) {
-        int many = 0;
-        for (int person = 0; person < 150; person++) {
-            int bucket = bucketOf(person, salt);
-            many += bucket >= least && bucket <= most ? 1 : 0;
-        }
-        return many;
-    }
-
-    private static void type(SaltShares x, String text) {
-        for (int i = 0; i < text.length(); i++) {
-            x.append(text.charAt(i));
-        }
-    }
-
-    /** A town with the breads 0 and 1 of group 0, the second one sticky, and 2 (sticky) and 3 of none, salts 42. */
-    private static SaltShares town() {
-        SaltShares x = new SaltShares();
-        x.open(0, 1, false);
-        x.open(0, 2, true);
-        x.open(-1, 42, true);
-        x.open(-1, 42, false);
-        return x;
-    }
-
     private static void aNewObject() {
-        promise = 1;
+        about("promise 1");
         SaltShares x = new SaltShares();
         for (int what = 0; what <= 8; what++) {
             due("count(" + what + ")", x.count(what), 0);
@@ -123,7 +53,7 @@ public final class PromiseTest {
     }
 
     private static void open() {
-        promise = 2;
+        about("promise 2");
         SaltShares x = new SaltShares();
         fails(x, "open(3)", ARGUMENT, () -> x.open(3, 0, false));
         fails(x, "open(-2)", ARGUMENT, () -> x.open(-2, 0, false));
@@ -151,7 +81,7 @@ public final class PromiseTest {
     }
 
     private static void end() {
-        promise = 3;
+        about("promise 3");
         SaltShares x = town();
         x.raise(0, 100);
         x.hold(5, 0, true);
@@ -179,7 +109,7 @@ public final class PromiseTest {
     }
 
     private static void raise() {
-        promise = 4;
+        about("promise 4");
         SaltShares x = town();
         due("raise to the same share", x.raise(0, 0), 0);
         due("raise", x.raise(0, 20), personsWithin(11, 0, 19));
@@ -207,7 +137,7 @@ public final class PromiseTest {
     }
 
     private static void lower() {
-        promise = 5;
+        about("promise 5");
         SaltShares x = town();
         x.raise(0, 20);
         x.raise(1, 30);
@@ -235,7 +165,7 @@ public final class PromiseTest {
     }
 
     private static void resalt() {
-        promise = 6;
+        about("promise 6");
         SaltShares x = town();
         x.raise(3, 40);
         int changed = 0;
@@ -261,7 +191,7 @@ public final class PromiseTest {
     }
 
     private static void shake() {
-        promise = 7;
+        about("promise 7");
         SaltShares x = town();
         due("shake", x.shake(2, 9999), 33);
         due("shake", x.shake(2, 0), 9999);
@@ -280,7 +210,7 @@ public final class PromiseTest {
     }
 
     private static void hold() {
-        promise = 8;
+        about("promise 8");
         SaltShares x = town();
         due("hold in", x.hold(149, 0, true), 1);
         due("hold in again", x.hold(149, 0, true), 0);
@@ -308,7 +238,7 @@ public final class PromiseTest {
     }
 
     private static void letGo() {
-        promise = 9;
+        about("promise 9");
         SaltShares x = town();
         x.hold(3, 0, true);
         due("let go", x.letGo(3, 0), 1);
@@ -332,7 +262,7 @@ public final class PromiseTest {
     }
 
     private static void pass() {
-        promise = 10;
+        about("promise 10");
         SaltShares x = town();
         due("a day without eaters", x.pass(1), 0);
         x.raise(0, 100);
@@ -353,7 +283,7 @@ public final class PromiseTest {
     }
 
     private static void texts() {
-        promise = 11;
+        about("promise 11");
         SaltShares x = new SaltShares();
         due("append", x.append(33), 1);
         due("append", x.append(126), 2);
@@ -365,7 +295,7 @@ public final class PromiseTest {
         fails(x, "append the 61st", STATE, () -> x.append('d'));
         fails(x, "append the 61st, out of range", ARGUMENT, () -> x.append(0));
         due("not undoable", x.count(8), 0);
-        promise = 12;
+        about("promise 12");
         due("clearBuffer", x.clearBuffer(), 60);
         due("clearBuffer", x.clearBuffer(), 0);
         due("append then", x.append('d'), 1);
@@ -399,7 +329,7 @@ public final class PromiseTest {
     }
 
     private static void firstError() {
-        promise = 13;
+        about("promise 13");
         followers();
         String[] fine = {"", "+", "-7", "+0=", "+0=0", "-7=99", "+1=100", "+1=100;", "i0@0", "o149@7", "i14", "x0;x7",
             "d1", "d50;d9;", "i100@1;o99@2;+3=40;-4=9;x5;d49"};
@@ -446,13 +376,8 @@ public final class PromiseTest {
         error(full.substring(0, 57) + "+0=", 60);
     }
 
-    private static int ran(SaltShares x, String text) {
-        type(x, text);
-        return x.run();
-    }
-
     private static void run() {
-        promise = 14;
+        about("promise 14");
         SaltShares x = town();
         due("run", ran(x, "+0=40;i5@1;o6@0;+3=100;-3=30;d3;x0"), 7);
         due("buffer", x.clearBuffer(), 0);
@@ -487,7 +412,7 @@ public final class PromiseTest {
     }
 
     private static void undo() {
-        promise = 15;
+        about("promise 15");
         SaltShares x = new SaltShares();
         fails(x, "undo without saved states", STATE, x::undo);
         for (int bread = 0; bread < 8; bread++) {
@@ -516,7 +441,7 @@ public final class PromiseTest {
     }
 
     private static void eats() {
-        promise = 16;
+        about("promise 16");
         SaltShares x = town();
         due("nothing", x.eats(0, 2), 0);
         x.hold(1, 2, true);
@@ -540,7 +465,7 @@ public final class PromiseTest {
     }
 
     private static void bucket() {
-        promise = 17;
+        about("promise 17");
         SaltShares x = town();
         due("bucket", x.bucket(0, 2), 95);
         x.shake(0, 9999);
@@ -556,7 +481,7 @@ public final class PromiseTest {
     }
 
     private static void bread() {
-        promise = 18;
+        about("promise 18");
         SaltShares x = town();
         x.raise(1, 10);
         x.raise(0, 20);
@@ -583,7 +508,7 @@ public final class PromiseTest {
     }
 
     private static void person() {
-        promise = 19;
+        about("promise 19");
         SaltShares x = town();
         x.raise(3, 100);
         x.hold(149, 0, true);
@@ -603,7 +528,7 @@ public final class PromiseTest {
     }
 
     private static void owner() {
-        promise = 20;
+        about("promise 20");
         SaltShares x = town();
         x.open(2, 0, false);
         x.raise(1, 1);
@@ -622,7 +547,7 @@ public final class PromiseTest {
     }
 
     private static void count() {
-        promise = 21;
+        about("promise 21");
         SaltShares x = town();
         x.end(1);
         x.raise(3, 100);
@@ -651,7 +576,7 @@ public final class PromiseTest {
     }
 
     private static void overlap() {
-        promise = 22;
+        about("promise 22");
         SaltShares x = town();
         x.raise(2, 60);
         x.raise(3, 20);
@@ -666,7 +591,7 @@ public final class PromiseTest {
     }
 
     private static void ifShare() {
-        promise = 23;
+        about("promise 23");
         SaltShares x = town();
         x.raise(0, 20);
         x.raise(1, 30);
@@ -691,7 +616,7 @@ public final class PromiseTest {
     }
 
     private static void shareFor() {
-        promise = 24;
+        about("promise 24");
         SaltShares x = town();
         due("nobody", x.shareFor(2, 0), 0);
         int least = 0;
@@ -720,7 +645,7 @@ public final class PromiseTest {
     }
 
     private static void bestSalt() {
-        promise = 25;
+        about("promise 25");
         SaltShares x = town();
         due("all as good", x.bestSalt(3, 500), 500);
         x.raise(3, 40);
@@ -740,17 +665,8 @@ public final class PromiseTest {
         fails(x, "bestSalt from 10000", ARGUMENT, () -> x.bestSalt(3, 10000));
     }
 
-    private static int firstOf(int salt, int bucket) {
-        for (int person = 0; person < 150; person++) {
-            if (bucketOf(person, salt) == bucket) {
-                return person;
-            }
-        }
-        return -1;
-    }
-
     private static void nextEater() {
-        promise = 26;
+        about("promise 26");
         SaltShares x = town();
         for (int share = 0; share < 100; share++) {
             x.raise(3, share);
@@ -781,7 +697,7 @@ public final class PromiseTest {
     }
 
     private static void part() {
-        promise = 27;
+        about("promise 27");
         SaltShares x = town();
         due("nobody", x.part(0) == 0.0 ? 1 : 0, 1);
         for (int person = 0; person < 150; person++) {
@@ -830,7 +746,7 @@ public final class PromiseTest {
     }
 
     private static void digest() {
-        promise = 28;
+        about("promise 28");
         SaltShares x = new SaltShares();
         due("digest of a new object", x.digest(), digestOf(x, ""));
         SaltShares y = town();
@@ -874,9 +790,6 @@ public final class PromiseTest {
         part();
         digest();
         undoableOnes();
-        System.out.println(wrong == 0 ? "all promises are kept" : wrong + " answers are not as due");
-        if (wrong != 0) {
-            System.exit(1);
-        }
+        close("PromiseTest");
     }
 }
