@@ -14,14 +14,6 @@ public final class TermsTest extends Checks {
         72, 17, 27, 31, 59, 76, 68, 7, 8, 52, 51, 46, 71, 73, 82, 86, 70, 7, 5, 64, 16, 37, 83, 82, 91, 45, 45, 13, 85,
         43, 24, 82, 53, 8, 52, 5, 11, 8, 94, 42, 2, 49, 88, 37, 92};
 
-    /** A town with one open bread, of no group, with that salt and share. */
-    private static SaltShares withBread(int salt, boolean isSticky, int share) {
-        SaltShares x = new SaltShares();
-        x.open(-1, salt, isSticky);
-        x.raise(0, share);
-        return x;
-    }
-
     // ---- What it is
 
     private static void useFor512Calls() {

@@ -10,6 +10,10 @@ abstract class Checks {
     static final Class<?> STATE = IllegalStateException.class;
     /** Numbers of no person. */
     static final int[] FAR = {MIN, -2, -1, 150, 151, MAX};
+    static final int[] SALTS_OUT_OF_RANGE = {MIN, -1, 10000, 10001, MAX};
+    static final int[] SHARES_OUT_OF_RANGE = {MIN, -1, 101, 102, MAX};
+    /** Breads that there are not in busyTown. */
+    static final int[] NO_BREADS = {MIN, -1, 5, 7, 8, MAX};
 
     private static int wrong = 0;
     private static String sentence = "";
@@ -73,6 +77,25 @@ abstract class Checks {
         Class<?> thrown = thrownBy(() -> call.on(x));
         holds(what + " threw " + thrown + ", due is " + due, thrown == due);
         sameAll(what, x, maker.make());
+    }
+
+    /** A call that takes the number of a bread or of a person. */
+    interface CallWith {
+        long on(SaltShares x, int number);
+    }
+
+    static void refusesNoBreads(String what, CallWith call) {
+        for (int bread : NO_BREADS) {
+            refused(Checks::busyTown, what + " of bread " + bread, INDEX, x -> call.on(x, bread));
+        }
+        refused(SaltShares::new, what + " of bread 0 of a new object", INDEX, x -> call.on(x, 0));
+        refused(Checks::town, what + " of bread 4 of 4", INDEX, x -> call.on(x, 4));
+    }
+
+    static void refusesFarPersons(String what, CallWith call) {
+        for (int person : FAR) {
+            refused(Checks::busyTown, what + " of person " + person, INDEX, x -> call.on(x, person));
+        }
     }
 
     /** The call answers that, and changes nothing at all. */
@@ -190,6 +213,14 @@ abstract class Checks {
         x.open(0, 2, true);
         x.open(-1, 42, true);
         x.open(-1, 42, false);
+        return x;
+    }
+
+    /** A town with one open bread, of no group, with that salt and share. */
+    static SaltShares withBread(int salt, boolean isSticky, int share) {
+        SaltShares x = new SaltShares();
+        x.open(-1, salt, isSticky);
+        x.raise(0, share);
         return x;
     }
 
