@@ -302,6 +302,32 @@ public final class DaysAndTextsBoundaryTest extends Checks {
         runs("i149@3;o149@3;x3;i149@3;d1", 3, 3);
     }
 
+    /** The command is not carried out, and what comes after it is not either. */
+    private static void stopsAt(String command) {
+        SaltShares x = busyTown();
+        x.clearBuffer();
+        due("run of " + command, ran(x, "d2;" + command + ";d1;x3"), 1);
+        SaltShares y = busyTown();
+        y.pass(2);
+        due("what is told after d2 and " + command, toldBy(x), toldBy(y));
+        due("digest after d2 and " + command, x.digest(), digestWithoutBuffer(y));
+    }
+
+    private static long digestWithoutBuffer(SaltShares x) {
+        x.clearBuffer();
+        return x.digest();
+    }
+
+    private static void theOneThatWouldThrowChangesNothing() {
+        about("14: up to the first one whose method would throw an exception");
+        String[] commands = {"+5=0", "+5=1", "+7=100", "-5=0", "-7=100", "+4=0", "+4=100", "-4=0", "-4=100", "+3=9",
+            "+3=0", "-3=11", "-3=100", "+0=24", "+1=0", "-0=26", "-1=100", "+0=71", "+0=100", "+1=76", "i0@5", "i149@7",
+            "o0@5", "o149@7", "i0@4", "o0@4", "i149@4", "o149@4", "i148@4", "x4", "x5", "x7"};
+        for (String command : commands) {
+            stopsAt(command);
+        }
+    }
+
     private static void runDoesWhatTheCallsDo() {
         about("14: Carries out the commands in the buffer");
         SaltShares x = town();
@@ -409,6 +435,7 @@ public final class DaysAndTextsBoundaryTest extends Checks {
         runUpToTheFirstThatThrows();
         runOfSharesThatCannotBe();
         runOfHoldsThatCannotBe();
+        theOneThatWouldThrowChangesNothing();
         runDoesWhatTheCallsDo();
         runOfAFullBuffer();
         undoTheLatest();

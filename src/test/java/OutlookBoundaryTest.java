@@ -72,6 +72,47 @@ public final class OutlookBoundaryTest extends Checks {
         }
     }
 
+    private static void ifShareWithHoldsAndSticking() {
+        about("23: how many persons would eat it: who is held in does, who is held out does not, though it is sticky");
+        SaltShares x = withBread(0, true, 100);
+        x.pass(1);
+        due("all ate it", x.ifShare(0, 0), 150);
+        x.hold(0, 0, false);
+        x.hold(149, 0, true);
+        due("one is held out", x.ifShare(0, 0), 149);
+        due("one is held out", x.ifShare(0, 100), 149);
+        due("all but one", x.shareFor(0, 149), 0);
+        due("all", x.shareFor(0, 150), -1);
+        due("nobody is left", x.nextEater(0), -1);
+        x.letGo(0, 0);
+        due("not any more", x.ifShare(0, 0), 150);
+    }
+
+    private static void outlookInEachGroup() {
+        about("23, 24, 26: a bread of a group gets the lowest buckets that no bread of the group owns");
+        for (int group = 0; group < 3; group++) {
+            int salt = 11 + 11 * group;
+            SaltShares x = new SaltShares();
+            x.open(group, 0, false);
+            x.open((group + 1) % 3, 0, false);
+            x.open(group, 0, false);
+            x.raise(0, 30);
+            x.raise(1, 99);
+            due("another group has none left", x.ifShare(1, 100), 150);
+            due("not possible", x.ifShare(2, 71), -1);
+            due("all that are left", x.ifShare(2, 70), personsWithin(salt, 30, 99));
+            due("some of them", x.ifShare(2, 10), personsWithin(salt, 30, 39));
+            due("so many as are left", x.shareFor(2, personsWithin(salt, 30, 99)) > 0 ? 1 : 0, 1);
+            due("one more than are left", x.shareFor(2, personsWithin(salt, 30, 99) + 1), -1);
+            int bucket = 30;
+            while (firstOf(salt, bucket) < 0) {
+                bucket++;
+            }
+            due("who comes next", x.nextEater(2), firstOf(salt, bucket));
+            due("the share for one", x.shareFor(2, 1), bucket - 29);
+        }
+    }
+
     private static void ifShareRefuses() {
         about("23: no such bread; share is out of range");
         refusesNoBreads("ifShare", (x, bread) -> x.ifShare(bread, 0));
@@ -331,6 +372,12 @@ public final class OutlookBoundaryTest extends Checks {
         full.lower(0, 98);
         due("one bucket is left", full.nextEater(1), firstOf(11, 98));
         onlyTells(Checks::busyTown, "nextEater of an ended one", -1, x -> x.nextEater(4));
+        SaltShares ended = withBread(0, false, 50);
+        ended.end(0);
+        due("nextEater of an ended one that could have had more", ended.nextEater(0), -1);
+        SaltShares endedInGroup = town();
+        endedInGroup.end(0);
+        due("nextEater of an ended one of a group with free buckets", endedInGroup.nextEater(0), -1);
         refusesNoBreads("nextEater", SaltShares::nextEater);
     }
 
@@ -435,6 +482,8 @@ public final class OutlookBoundaryTest extends Checks {
         overlapOfTwo();
         overlapRefuses();
         ifShareIsWhatWouldBe();
+        ifShareWithHoldsAndSticking();
+        outlookInEachGroup();
         ifShareRefuses();
         shareForIsTheLeast();
         shareForNobodyAndForAll();

@@ -297,6 +297,11 @@ public final class ToldBoundaryTest extends Checks {
             due("one has ended", x.count(6), 1);
             x.hold(7, 4, false);
             due("held out", x.count(6), 0);
+            x.hold(0, 0, true);
+            x.hold(0, 4, true);
+            due("the first person", x.count(6), 1);
+            x.raise(0, 100);
+            due("by bucket and hold", x.count(6), 2);
         }
     }
 

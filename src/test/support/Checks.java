@@ -144,7 +144,7 @@ abstract class Checks {
     }
 
     /** A hash of what is told of breads, persons, groups and days, without the number of saved states. */
-    private static long toldBy(SaltShares x) {
+    static long toldBy(SaltShares x) {
         long hash = 7;
         for (int what : new int[] {0, 1, 2, 3, 4, 5, 6, 7, 10, 11, 12, 20, 21, 22}) {
             hash = 31 * hash + x.count(what);
